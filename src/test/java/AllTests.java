@@ -1,0 +1,14 @@
+/** Runs every test of the project; ends with exit code 1 if one fails. */
+public final class AllTests {
+    private AllTests() {
+    }
+
+    public static void main(String[] args) {
+        PromiseTests.run();
+        FaceTests.run();
+        ModelTests.run();
+        if (!Check.report()) {
+            System.exit(1);
+        }
+    }
+}
