@@ -239,6 +239,7 @@ final class PromiseTests {
         same(5, "hour 2", 200, x.count(0, 2));
         same(5, "the other section stays", 100, x.count(1, 2));
         same(5, "the hour of now", 0, x.find(0, 3, 60));
+        same(5, "nothing new", 0, x.find(0, 1, 50));
         same(5, "back", -110, x.find(0, 1, 0));
         same(5, "for hours that have not ended too", 0, x.taken(0, 199));
         x.find(0, 3, 20);
@@ -325,6 +326,15 @@ final class PromiseTests {
         Check.argument("promise 6, reading -1", () -> x.turnUp(1, 0, -1));
         Check.argument("promise 6, reading 30001", () -> x.turnUp(1, 0, 30001));
         same(6, "nothing changed", -1, x.reading(1, 0));
+        LampCounts end = street(0);
+        breakAll(end);
+        passed(end, 200);
+        end.turnUp(11, 198, 600);
+        same(6, "the hour behind it stays", 0, end.count(0, 199));
+        end.turnUp(0, 199, 500);
+        same(6, "the hour ahead of it stays", 600, end.count(11, 198));
+        same(6, "in the last hour", 0, end.turnUp(11, 199, 100));
+        same(6, "the gap of the last hour", 300, end.count(10, 199));
     }
 
     private static void lease() {
@@ -634,6 +644,14 @@ final class PromiseTests {
         same(19, "from the count, not the reading", 105, x.count(3, 0));
         same(19, "beyond the next reading", 20, x.count(11, 0));
         same(19, "beyond the reading ahead", 11, x.count(0, 0));
+        LampCounts y = street(50);
+        breakAll(y);
+        y.setLamp(1, true, 0);
+        y.setLamp(3, true, 40);
+        y.pass(1);
+        same(19, "filled when the hour ends, from behind alone", 50, y.count(0, 0));
+        same(19, "filled when the hour ends, from both sides", 40, y.count(2, 0));
+        same(19, "filled when the hour ends, from ahead alone", 30, y.count(11, 0));
     }
 
     private static void countAnew() {
