@@ -5,6 +5,10 @@ public final class AllTests {
 
     public static void main(String[] args) {
         PromiseTests.run();
+        RangeTests.run();
+        OrderTests.run();
+        StateTests.run();
+        TermsTests.run();
         FaceTests.run();
         ModelTests.run();
         if (!Check.report()) {

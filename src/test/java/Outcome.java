@@ -12,6 +12,10 @@ final class Outcome {
     private Outcome() {
     }
 
+    static boolean isAnswer(long outcome) {
+        return outcome > OTHER;
+    }
+
     static long of(Check.Call call) {
         try {
             return call.run();

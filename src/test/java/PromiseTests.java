@@ -79,25 +79,6 @@ final class PromiseTests {
         Check.holds("promise " + promise + ", " + what, held);
     }
 
-    private static LampCounts street(int people) {
-        LampCounts x = new LampCounts();
-        x.setPeople(0, people, 0);
-        return x;
-    }
-
-    private static LampCounts passed(LampCounts x, int hours) {
-        for (int left = hours; left > 0; left -= 50) {
-            x.pass(Math.min(left, 50));
-        }
-        return x;
-    }
-
-    private static void breakAll(LampCounts x) {
-        for (int section = 0; section < 12; section++) {
-            x.setLamp(section, false, 0);
-        }
-    }
-
     /** The methods of a section and an ended hour share the same wrong inputs. */
     private interface OfHour {
         int ask(LampCounts x, int section, int hour);
@@ -106,7 +87,7 @@ final class PromiseTests {
     private static void wrongHours(int promise, OfHour asked) {
         LampCounts fresh = new LampCounts();
         Check.argument("promise " + promise + ", no hour has ended", () -> asked.ask(fresh, 0, 0));
-        LampCounts x = passed(new LampCounts(), 200);
+        LampCounts x = Streets.passed(new LampCounts(), 200);
         Check.index("promise " + promise + ", section -1", () -> asked.ask(x, -1, 0));
         Check.index("promise " + promise + ", section 12", () -> asked.ask(x, 12, 0));
         Check.index("promise " + promise + ", the section goes first", () -> asked.ask(x, 12, 200));
@@ -154,7 +135,7 @@ final class PromiseTests {
             same(1, "has no coins", 0, x.coins(i));
             same(1, "skill", 10, x.setSkill(i, 10));
         }
-        LampCounts y = street(10);
+        LampCounts y = Streets.of(10);
         y.pass(1);
         same(1, "objects share nothing", 1, x.hour());
         same(1, "at first nobody leaves", 10, y.through(0));
@@ -183,7 +164,7 @@ final class PromiseTests {
     }
 
     private static void pass() {
-        LampCounts x = street(10);
+        LampCounts x = Streets.of(10);
         same(3, "steps of one hour", 120, x.pass(1));
         same(3, "steps of fifty", 6000, x.pass(50));
         same(3, "the hour", 51, x.hour());
@@ -199,14 +180,14 @@ final class PromiseTests {
         Check.state("promise 3, more than 200", () -> x.pass(1));
         Check.argument("promise 3, the range goes first", () -> x.pass(51));
         same(3, "200 have ended", 200, x.hour());
-        LampCounts y = street(1000);
+        LampCounts y = Streets.of(1000);
         y.setSkill(0, 50);
         y.ask(0, 0);
         same(3, "with the crowd", 1500 + 11 * 500, y.pass(1));
     }
 
     private static void setLamp() {
-        LampCounts x = street(999);
+        LampCounts x = Streets.of(999);
         same(4, "before", 0, x.setLamp(1, true, 60));
         same(4, "before", 60, x.setLamp(1, true, 37));
         x.setLamp(2, false, 20);
@@ -228,7 +209,7 @@ final class PromiseTests {
     }
 
     private static void find() {
-        LampCounts x = street(100);
+        LampCounts x = Streets.of(100);
         x.lease(0, 0, 1, 50, 10);
         x.lease(1, 1, 2, 10, 2);
         x.lease(3, 1, 0, 50, 10);
@@ -252,7 +233,7 @@ final class PromiseTests {
         Check.argument("promise 5, blind -1", () -> x.find(0, 0, -1));
         Check.argument("promise 5, blind 61", () -> x.find(0, 0, 61));
         same(5, "nothing changed", 0, x.taken(0, 0));
-        LampCounts end = passed(street(10), 200);
+        LampCounts end = Streets.passed(Streets.of(10), 200);
         same(5, "from hour 200 on", 0, end.find(0, 200, 60));
         same(5, "the last hour stays", 0, end.taken(0, 199));
         Check.argument("promise 5, hour 201", () -> end.find(0, 201, 60));
@@ -260,7 +241,7 @@ final class PromiseTests {
 
     /** What was found last counts, wherever its first hour lies. */
     private static void findAsOnesOwnLast() {
-        LampCounts x = passed(street(100), 4);
+        LampCounts x = Streets.passed(Streets.of(100), 4);
         x.find(3, 2, 50);
         x.find(3, 1, 20);
         same(5, "later in time, found before", 125, x.count(3, 3));
@@ -268,7 +249,7 @@ final class PromiseTests {
         same(5, "found last", 100, x.count(3, 3));
         same(5, "ahead of it", 125, x.count(3, 2));
         same(5, "ahead of all", 100, x.count(3, 0));
-        LampCounts gaps = street(100);
+        LampCounts gaps = Streets.of(100);
         gaps.setLamp(1, false, 0);
         gaps.setLamp(2, false, 0);
         gaps.lease(5, 0, 0, 50, 5);
@@ -297,7 +278,7 @@ final class PromiseTests {
     }
 
     private static void turnUp() {
-        LampCounts x = street(100);
+        LampCounts x = Streets.of(100);
         x.setLamp(1, false, 0);
         x.setLamp(2, false, 0);
         x.lease(3, 0, 5, 50, 5);
@@ -326,9 +307,9 @@ final class PromiseTests {
         Check.argument("promise 6, reading -1", () -> x.turnUp(1, 0, -1));
         Check.argument("promise 6, reading 30001", () -> x.turnUp(1, 0, 30001));
         same(6, "nothing changed", -1, x.reading(1, 0));
-        LampCounts end = street(0);
-        breakAll(end);
-        passed(end, 200);
+        LampCounts end = Streets.of(0);
+        Streets.breakAll(end);
+        Streets.passed(end, 200);
         end.turnUp(11, 198, 600);
         same(6, "the hour behind it stays", 0, end.count(0, 199));
         end.turnUp(0, 199, 500);
@@ -338,7 +319,7 @@ final class PromiseTests {
     }
 
     private static void lease() {
-        LampCounts x = street(250);
+        LampCounts x = Streets.of(250);
         same(7, "its number", 0, x.lease(35, 5, 50, 50, 100));
         same(7, "its number", 1, x.lease(0, 0, 0, 0, 1));
         x.pass(1);
@@ -358,7 +339,7 @@ final class PromiseTests {
         Check.argument("promise 7, 0 hours", () -> x.lease(0, 0, 0, 0, 0));
         Check.argument("promise 7, 101 hours", () -> x.lease(0, 0, 0, 0, 101));
         same(7, "nothing changed", 3, x.leases());
-        LampCounts end = passed(new LampCounts(), 200);
+        LampCounts end = Streets.passed(new LampCounts(), 200);
         same(7, "behind the last hour", 0, end.lease(0, 0, 50, 0, 100));
         same(7, "nothing is billed", 0, end.billed(0));
         Check.state("promise 7, the door is held there too", () -> end.lease(0, 0, 50, 0, 100));
@@ -392,7 +373,7 @@ final class PromiseTests {
     }
 
     private static void quit() {
-        LampCounts x = street(100);
+        LampCounts x = Streets.of(100);
         x.lease(0, 0, 10, 0, 5);
         x.lease(1, 0, 10, 0, 2);
         x.lease(2, 0, 10, 0, 5);
@@ -418,7 +399,7 @@ final class PromiseTests {
     }
 
     private static void pay() {
-        LampCounts x = street(100);
+        LampCounts x = Streets.of(100);
         x.lease(0, 3, 10, 0, 5);
         x.pass(1);
         same(9, "less than is owed", 9, x.pay(3, 1));
@@ -442,7 +423,7 @@ final class PromiseTests {
     }
 
     private static void setSkill() {
-        LampCounts x = street(100);
+        LampCounts x = Streets.of(100);
         same(10, "before", 10, x.setSkill(5, 50));
         same(10, "before", 50, x.setSkill(5, 33));
         x.ask(5, 0);
@@ -463,7 +444,7 @@ final class PromiseTests {
     }
 
     private static void ask() {
-        LampCounts x = street(100);
+        LampCounts x = Streets.of(100);
         for (int section = 0; section < 12; section++) {
             same(11, "for how many", section + 1, x.ask(2, section));
         }
@@ -537,7 +518,7 @@ final class PromiseTests {
     }
 
     private static void crowd() {
-        LampCounts x = street(99);
+        LampCounts x = Streets.of(99);
         x.setSkill(1, 50);
         x.ask(1, 0);
         x.ask(0, 1);
@@ -551,7 +532,7 @@ final class PromiseTests {
     }
 
     private static void through() {
-        LampCounts x = street(40);
+        LampCounts x = Streets.of(40);
         x.setPeople(11, 9, 50);
         x.pass(1);
         same(16, "those who stay", 25, x.through(0));
@@ -565,14 +546,14 @@ final class PromiseTests {
         same(16, "none", 0, x.through(2));
         Check.argument("promise 16, hour -1", () -> x.through(-1));
         Check.argument("promise 16, the hour of now", () -> x.through(3));
-        LampCounts end = passed(street(40), 200);
+        LampCounts end = Streets.passed(Streets.of(40), 200);
         same(16, "the last hour", 40, end.through(199));
         Check.argument("promise 16, hour 200", () -> end.through(200));
         Check.argument("promise 16, no hour has ended", () -> new LampCounts().through(0));
     }
 
     private static void reading() {
-        LampCounts x = street(101);
+        LampCounts x = Streets.of(101);
         x.setLamp(1, true, 60);
         x.setLamp(2, false, 0);
         x.ask(0, 0);
@@ -588,7 +569,7 @@ final class PromiseTests {
     }
 
     private static void taken() {
-        LampCounts x = passed(new LampCounts(), 3);
+        LampCounts x = Streets.passed(new LampCounts(), 3);
         x.setLamp(0, true, 50);
         same(18, "nothing was found", 0, x.taken(0, 199));
         x.find(0, 1, 30);
@@ -604,12 +585,12 @@ final class PromiseTests {
         Check.index("promise 18, section 12", () -> x.taken(12, 200));
         Check.argument("promise 18, hour -1", () -> x.taken(0, -1));
         Check.argument("promise 18, hour 200", () -> x.taken(0, 200));
-        LampCounts end = passed(new LampCounts(), 200);
+        LampCounts end = Streets.passed(new LampCounts(), 200);
         Check.argument("promise 18, hour 200 at the end", () -> end.taken(0, 200));
     }
 
     private static void count() {
-        LampCounts x = street(1000);
+        LampCounts x = Streets.of(1000);
         x.setLamp(0, true, 33);
         x.find(0, 0, 33);
         x.find(1, 0, 7);
@@ -624,7 +605,7 @@ final class PromiseTests {
 
     private static void countOfGaps() {
         LampCounts x = new LampCounts();
-        breakAll(x);
+        Streets.breakAll(x);
         x.pass(1);
         for (int section = 0; section < 12; section++) {
             same(19, "without any reading", 0, x.count(section, 0));
@@ -644,8 +625,8 @@ final class PromiseTests {
         same(19, "from the count, not the reading", 105, x.count(3, 0));
         same(19, "beyond the next reading", 20, x.count(11, 0));
         same(19, "beyond the reading ahead", 11, x.count(0, 0));
-        LampCounts y = street(50);
-        breakAll(y);
+        LampCounts y = Streets.of(50);
+        Streets.breakAll(y);
         y.setLamp(1, true, 0);
         y.setLamp(3, true, 40);
         y.pass(1);
@@ -655,7 +636,7 @@ final class PromiseTests {
     }
 
     private static void countAnew() {
-        LampCounts x = street(777);
+        LampCounts x = Streets.of(777);
         x.setLamp(3, false, 0);
         x.setLamp(4, false, 0);
         x.setLamp(5, true, 40);
@@ -674,14 +655,14 @@ final class PromiseTests {
         x.turnUp(4, 1, 12);
         same(20, "of what turned up", 12, x.countAnew(4, 1));
         same(20, "of the gap that leans on it", (77700 / 91 + 12) / 2, x.countAnew(3, 1));
-        breakAll(x);
+        Streets.breakAll(x);
         x.pass(1);
         same(20, "without any reading", 0, x.countAnew(6, 2));
         wrongHours(20, LampCounts::countAnew);
     }
 
     private static void missed() {
-        LampCounts x = street(100);
+        LampCounts x = Streets.of(100);
         x.pass(1);
         same(21, "nothing", 0, x.missed(0));
         x.find(0, 0, 50);
@@ -695,12 +676,12 @@ final class PromiseTests {
         x.ask(0, 0);
         x.pass(1);
         same(21, "the crowd counts, the lamp of 90 misses 27", 27, x.missed(2));
-        breakAll(x);
+        Streets.breakAll(x);
         x.pass(1);
         same(21, "all of them", 1200, x.missed(3));
         Check.argument("promise 21, hour -1", () -> x.missed(-1));
         Check.argument("promise 21, the hour of now", () -> x.missed(4));
-        LampCounts end = passed(street(40), 200);
+        LampCounts end = Streets.passed(Streets.of(40), 200);
         same(21, "the last hour", 0, end.missed(199));
         Check.argument("promise 21, hour 200", () -> end.missed(200));
         Check.argument("promise 21, no hour has ended", () -> new LampCounts().missed(0));
@@ -720,7 +701,7 @@ final class PromiseTests {
     }
 
     private static void isOf() {
-        LampCounts x = passed(new LampCounts(), 5);
+        LampCounts x = Streets.passed(new LampCounts(), 5);
         x.lease(0, 0, 0, 0, 3);
         holds(23, "ahead of it", !x.isOf(0, 4));
         holds(23, "its first", x.isOf(0, 5));
@@ -733,14 +714,14 @@ final class PromiseTests {
         holds(23, "quit: the hour of then", !x.isOf(0, 6));
         Check.index("promise 23, lease 1", () -> x.isOf(1, 0) ? 1 : 0);
         wrongIndex(23, 0, (y, lease) -> y.isOf(lease, 0) ? 1 : 0);
-        LampCounts end = passed(new LampCounts(), 199);
+        LampCounts end = Streets.passed(new LampCounts(), 199);
         end.lease(0, 0, 0, 0, 100);
         holds(23, "hours that will never end", end.isOf(0, 199) && end.isOf(0, 200) && end.isOf(0, 298));
         holds(23, "behind those", !end.isOf(0, 299));
     }
 
     private static void billed() {
-        LampCounts x = street(199);
+        LampCounts x = Streets.of(199);
         x.lease(0, 0, 3, 1, 2);
         same(24, "no hour has ended", 0, x.billed(0));
         x.pass(1);
@@ -761,7 +742,7 @@ final class PromiseTests {
     }
 
     private static void billedAnew() {
-        LampCounts x = street(199);
+        LampCounts x = Streets.of(199);
         x.setLamp(1, false, 0);
         x.lease(0, 0, 3, 1, 2);
         x.lease(4, 0, 3, 7, 50);
@@ -779,14 +760,14 @@ final class PromiseTests {
         same(25, "not behind its end", x.billed(1), x.billedAnew(1));
         Check.index("promise 25, lease 2", () -> x.billedAnew(2));
         wrongIndex(25, 0, LampCounts::billedAnew);
-        LampCounts end = passed(street(100), 199);
+        LampCounts end = Streets.passed(Streets.of(100), 199);
         end.lease(0, 0, 1, 1, 100);
         end.pass(1);
         same(25, "hours that will never end", 2, end.billedAnew(0));
     }
 
     private static void corrected() {
-        LampCounts x = street(100);
+        LampCounts x = Streets.of(100);
         x.find(0, 0, 50);
         x.lease(0, 0, 1, 10, 2);
         x.lease(3, 0, 1, 10, 2);
@@ -804,7 +785,7 @@ final class PromiseTests {
     }
 
     private static void owes() {
-        LampCounts x = street(100);
+        LampCounts x = Streets.of(100);
         x.lease(0, 5, 1, 10, 2);
         x.lease(3, 5, 2, 20, 2);
         x.lease(6, 4, 50, 50, 2);
@@ -880,7 +861,7 @@ final class PromiseTests {
     }
 
     private static void coins() {
-        LampCounts x = street(199);
+        LampCounts x = Streets.of(199);
         x.ask(5, 0);
         x.pass(1);
         same(30, "one for each 10", 1, x.coins(5));
