@@ -9,6 +9,7 @@ public final class AllTests {
         OrderTests.run();
         StateTests.run();
         TermsTests.run();
+        AnswerTests.run();
         FaceTests.run();
         ModelTests.run();
         if (!Check.report()) {

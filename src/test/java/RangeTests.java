@@ -1,4 +1,4 @@
-/** Every argument of every promise, at both ends of what is allowed and just outside, and on the largest and least number. */
+/** Every argument of every promise: both ends of what is allowed, just outside them, and the largest and least number. */
 final class RangeTests {
     private RangeTests() {
     }

@@ -1,4 +1,4 @@
-/** Each sentence that refuses a call by the state things are in: the last state that allows it, and the first that does not. */
+/** Each sentence that refuses a call by the state: the last state that allows it, and the first that does not. */
 final class StateTests {
     private StateTests() {
     }

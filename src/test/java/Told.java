@@ -40,7 +40,7 @@ final class Told {
         return all;
     }
 
-    /** What can be read, and what only shows by going on; the street is used up by it. One way hides what another shows. */
+    /** What can be read, and what only shows by going on: one way of going on hides what the other shows. */
     static List<Long> whole(LampCounts x, int way) {
         List<Long> all = visible(x);
         if (way == 0) {
