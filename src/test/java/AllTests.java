@@ -11,6 +11,8 @@ public final class AllTests {
         TermsTests.run();
         AnswerTests.run();
         FaceTests.run();
+        RoomTests.run();
+        ReadmeTests.run();
         ModelTests.run();
         if (!Check.report()) {
             System.exit(1);
